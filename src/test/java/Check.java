@@ -1,0 +1,81 @@
+/** Counts the answers that were asked for, and prints each that is not as due. */
+final class Check {
+    /** How a call that throws is written among answers; no call answers these numbers. */
+    static final long ARGUMENT = 1L << 40;
+    static final long STATE = 1L << 41;
+
+    private static int passed = 0;
+    private static int failed = 0;
+
+    private Check() {
+    }
+
+    static void due(String call, long got, long want) {
+        if (got == want) {
+            passed++;
+        } else {
+            failed++;
+            System.out.println(call + " answered " + told(got) + ", due is " + told(want));
+        }
+    }
+
+    static void due(String call, String got, String want) {
+        if (got.equals(want)) {
+            passed++;
+        } else {
+            failed++;
+            System.out.println(call + " answered " + got + ", due is " + want);
+        }
+    }
+
+    private static String told(long answer) {
+        if (answer == ARGUMENT) {
+            return "throws.IllegalArgumentException";
+        }
+        return answer == STATE ? "throws.IllegalStateException" : Long.toString(answer);
+    }
+
+    static long begin(ChainDesk desk, int n) {
+        try {
+            desk.begin(n);
+            return 0;
+        } catch (IllegalArgumentException e) {
+            return ARGUMENT;
+        }
+    }
+
+    static long whole(ChainDesk desk, int i, int m) {
+        try {
+            desk.whole(i, m);
+            return 0;
+        } catch (IllegalArgumentException e) {
+            return ARGUMENT;
+        }
+    }
+
+    static long part(ChainDesk desk, int i, int j, int v) {
+        try {
+            return desk.part(i, j, v);
+        } catch (IllegalArgumentException e) {
+            return ARGUMENT;
+        } catch (IllegalStateException e) {
+            return STATE;
+        }
+    }
+
+    /** All of what was printed, read character by character. */
+    static String text(ChainDesk desk) {
+        StringBuilder text = new StringBuilder();
+        for (int k = 0; desk.character(k) != ChainDesk.NONE; k++) {
+            text.append((char) desk.character(k));
+        }
+        return text.toString();
+    }
+
+    static void end() {
+        System.out.println(passed + " passed, " + failed + " failed");
+        if (failed != 0) {
+            System.exit(1);
+        }
+    }
+}
