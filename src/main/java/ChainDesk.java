@@ -628,11 +628,11 @@ public final class ChainDesk {
             return limb == 0 ? LIMB_BITS : Integer.bitCount((limb & -limb) - 1);
         }
 
-        /** By 0 to 31 places. */
-        void shiftRight(int places) {
+        /** By a count of 0 to 31 places. */
+        void shiftRight(int count) {
             for (int k = 0; k < LIMBS; k++) {
                 int next = k + 1 < LIMBS ? limbs[k + 1] : 0;
-                limbs[k] = (limbs[k] >>> places) | ((next << (LIMB_BITS - places)) & MASK);
+                limbs[k] = (limbs[k] >>> count) | ((next << (LIMB_BITS - count)) & MASK);
             }
         }
 
