@@ -7,7 +7,7 @@ public final class RoomTest {
     /** The room holds 7.3 million elements; an object may take what 512 of them leave. */
     private static final long MOST_BYTES_AN_OBJECT = 4 * 7300000L / CALLS;
 
-    /** Less than a byte row of one chain for each call; what the machine itself makes is below. */
+    /** Some 20 bytes a call: too few for a row, and above what the machine may make by itself. */
     private static final long MOST_BYTES_A_RUN = 10000;
 
     public static void main(String[] args) {
