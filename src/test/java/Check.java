@@ -6,8 +6,14 @@ final class Check {
 
     private static int passed = 0;
     private static int failed = 0;
+    private static String sentence = "";
 
     private Check() {
+    }
+
+    /** The document's words that the answers from here on are due by. */
+    static void sentence(String words) {
+        sentence = words + " | ";
     }
 
     static void due(String call, long got, long want) {
@@ -15,7 +21,7 @@ final class Check {
             passed++;
         } else {
             failed++;
-            System.out.println(call + " answered " + told(got) + ", due is " + told(want));
+            tell(call, told(got), told(want));
         }
     }
 
@@ -24,8 +30,12 @@ final class Check {
             passed++;
         } else {
             failed++;
-            System.out.println(call + " answered " + got + ", due is " + want);
+            tell(call, got, want);
         }
+    }
+
+    private static void tell(String call, String got, String want) {
+        System.out.println(sentence + call + " answered " + got + ", due is " + want);
     }
 
     private static String told(long answer) {

@@ -89,6 +89,7 @@ public final class PromisesTest {
             dueText("after a wrong begin", desk, 0, "1/3");
         }
         for (int n = 1; n <= 40; n++) {
+            desk = single(1, 3);
             due("begin(" + n + ")", Check.begin(desk, n), 0);
             dueUnknown("after begin", desk, 0);
             due("the last state is there", Check.part(desk, n - 1, n, 1), 0);
