@@ -1,6 +1,6 @@
 import java.math.BigInteger;
 
-/** Each sentence of promises 6 to 10 that names a boundary, with a test of its own. */
+/** A test for each sentence of promises 6 to 10 that names a boundary. */
 public final class AnswerBoundariesTest {
     private static final int LEAST = Integer.MIN_VALUE;
     private static final int GREATEST = Integer.MAX_VALUE;
@@ -312,7 +312,7 @@ public final class AnswerBoundariesTest {
     }
 
     private static void billionthsOfNoneAndAll() {
-        Check.sentence("Promise 9: A state's likelihood times 1000000000 (0 and 1)");
+        Check.sentence("Promise 9: A state's likelihood times 1000000000 (0, 1, near 1)");
         Desk desk = solved(0, 1, 0, MOST, 1, 1, MOST, MOST);
         int[] want = {0, 0, BILLION, BILLION};
         for (int i = 0; i < want.length; i++) {
@@ -320,6 +320,12 @@ public final class AnswerBoundariesTest {
         }
         Desk heavy = solved(Desk.inARow(16, HEAVY, HEAVY));
         due("1, over a long BELOW", heavy.billionths(0), BILLION);
+        Desk longest = solved(Desk.inARow(16, HEAVY - 1, HEAVY));
+        for (int i = 0; i < 16; i++) {
+            BigInteger above = big(HEAVY - 1).pow(16 - i).multiply(big(BILLION));
+            long billionths = above.divide(big(HEAVY).pow(16 - i)).longValueExact();
+            due("near 1, over a long BELOW, " + i, longest.billionths(i), billionths);
+        }
     }
 
     private static void billionthsRoundedDown() {

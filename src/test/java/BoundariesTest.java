@@ -1,6 +1,6 @@
 import java.math.BigInteger;
 
-/** Each sentence of "Terms" and of promises 1 to 5 that names a boundary, with a test of its own. */
+/** A test for each sentence of "Terms" and of promises 1 to 5 that names a boundary. */
 public final class BoundariesTest {
     private static final int LEAST = Integer.MIN_VALUE;
     private static final int GREATEST = Integer.MAX_VALUE;

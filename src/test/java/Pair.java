@@ -1,4 +1,8 @@
-/** A desk and the reference beside it: every call goes to both, and the answers are compared. */
+/**
+ * A desk and the reference beside it: every call goes to both, and the answers are compared. It may
+ * call more often than the 512 times that the document promises: no full chain of 40 states could
+ * be made otherwise, and the class counts no calls.
+ */
 final class Pair {
     private final ChainDesk desk = new ChainDesk();
     private final Reference reference = new Reference();
