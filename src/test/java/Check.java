@@ -3,6 +3,8 @@ final class Check {
     /** How a call that throws is written among answers; no call answers these numbers. */
     static final long ARGUMENT = 1L << 40;
     static final long STATE = 1L << 41;
+    /** A class below the one that the document names is not that one. */
+    private static final long ANOTHER = 1L << 42;
 
     private static int passed = 0;
     private static int failed = 0;
@@ -42,7 +44,10 @@ final class Check {
         if (answer == ARGUMENT) {
             return "throws.IllegalArgumentException";
         }
-        return answer == STATE ? "throws.IllegalStateException" : Long.toString(answer);
+        if (answer == STATE) {
+            return "throws.IllegalStateException";
+        }
+        return answer == ANOTHER ? "throws another class" : Long.toString(answer);
     }
 
     static long begin(ChainDesk desk, int n) {
@@ -50,7 +55,7 @@ final class Check {
             desk.begin(n);
             return 0;
         } catch (IllegalArgumentException e) {
-            return ARGUMENT;
+            return argument(e);
         }
     }
 
@@ -59,7 +64,7 @@ final class Check {
             desk.whole(i, m);
             return 0;
         } catch (IllegalArgumentException e) {
-            return ARGUMENT;
+            return argument(e);
         }
     }
 
@@ -67,10 +72,14 @@ final class Check {
         try {
             return desk.part(i, j, v);
         } catch (IllegalArgumentException e) {
-            return ARGUMENT;
+            return argument(e);
         } catch (IllegalStateException e) {
-            return STATE;
+            return e.getClass() == IllegalStateException.class ? STATE : ANOTHER;
         }
+    }
+
+    private static long argument(IllegalArgumentException e) {
+        return e.getClass() == IllegalArgumentException.class ? ARGUMENT : ANOTHER;
     }
 
     /** All of what was printed, read character by character. */

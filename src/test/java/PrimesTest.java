@@ -40,6 +40,10 @@ public final class PrimesTest {
         pair.part(i + 1, i, (int) (over / forth));
     }
 
+    /**
+     * No more than 14 can: the determinant is not above the wholes multiplied, which are 2 to 464
+     * at most (16 of 2 to 29), and 15 of the primes come near to 2 to 465.
+     */
     private static void primesThatDivideTheDeterminant() {
         int[] primes = greatestPrimes(14);
         for (int count = 1; count <= primes.length; count++) {
@@ -55,6 +59,10 @@ public final class PrimesTest {
                 }
                 Check.due("a chain for primes is solved", pair.solve(), 0);
                 pair.askAll();
+                if (count == primes.length) {
+                    boolean needed = pair.weight() > 15 * 30;
+                    Check.due("16 primes are needed beside these", needed ? 1 : 0, 1);
+                }
             }
         }
     }
